@@ -20,6 +20,7 @@ public final class CommandsTest {
         theFirstFailureCounts();
         syntaxErrors();
         viablePrefixes();
+        earlierInputIsForgotten();
         latestSyntaxError();
         Check.end("CommandsTest", 55, 57);
     }
@@ -241,6 +242,25 @@ public final class CommandsTest {
             }
             Check.fails(56, command + "~", ILLEGAL, () -> Check.run(x, command + "~"));
             Check.is(57, command + "~", command.length(), x::syntaxErrorOffset);
+        }
+    }
+
+    /** What an earlier input had further on must not complete a later one that ends too early. */
+    private static void earlierInputIsForgotten() {
+        String[] earlier = {
+            "s12/3", "s12/3", "s12/3", "a12", "a12", "c1+2", "c1+2", "c1+2", "b12@3", "b12@3", "b12@3", "o1@2", "o1@2",
+            "x1", "y1", "f1", "t;t", "tt",
+        };
+        String[] later = {
+            "s", "s12", "s12/", "a", "a1", "c", "c1", "c1+", "b1", "b12", "b12@", "o1", "o1@", "x", "y", "f", "t;", "",
+        };
+        for (int i = 0; i < later.length; i++) {
+            String first = earlier[i];
+            String second = later[i];
+            BarnacleExchange x = new BarnacleExchange();
+            Check.answerOf(() -> Check.run(x, first));
+            Check.fails(56, second + " after " + first, ILLEGAL, () -> Check.run(x, second));
+            Check.is(57, second + " after " + first, second.length(), x::syntaxErrorOffset);
         }
     }
 

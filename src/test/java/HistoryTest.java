@@ -15,6 +15,8 @@ public final class HistoryTest {
         whatIsAChange();
         whatIsNoChange();
         undoCoversAll();
+        earlierTradesComeBack();
+        otherShipsComeBack();
         snapshot();
         snapshotCoversAll();
         undoAndSnapshot();
@@ -195,6 +197,58 @@ public final class HistoryTest {
         Check.is(promise, "bids", 0, x::bidCount);
         Check.is(promise, "offers", 1, x::offerCount);
         Check.is(promise, "age of the offer", 1, () -> x.ageOfOffer(2));
+    }
+
+    private static void earlierTradesComeBack() {
+        BarnacleExchange x = new BarnacleExchange();
+        x.addShip(50, 4);
+        x.addShip(60, 3);
+        x.addBarnacle(0, 4);
+        x.addBarnacle(1, 6);
+        x.placeOffer(1, 10);
+        x.placeBid(0, 1, 12);
+        x.passTide();
+        x.saveSnapshot();
+        x.placeOffer(0, 20);
+        x.placeBid(1, 1, 30);
+        x.passTide();
+        Check.is(61, "the second trade", 25, () -> x.priceOf(0));
+        Check.is(61, "undone", 7, x::undo);
+        firstTradeIsLatest(x, 61);
+        Check.is(61, "again", 1, x::passTide);
+        Check.is(61, "its buyer", 1, () -> x.buyerOf(0));
+        Check.is(61, "its barnacle", 0, () -> x.barnacleOf(0));
+        x.restoreSnapshot();
+        firstTradeIsLatest(x, 63);
+    }
+
+    private static void firstTradeIsLatest(BarnacleExchange x, int promise) {
+        Check.is(promise, "buyer", 0, () -> x.buyerOf(0));
+        Check.is(promise, "seller", 1, () -> x.sellerOf(0));
+        Check.is(promise, "barnacle", 1, () -> x.barnacleOf(0));
+        Check.is(promise, "price", 11, () -> x.priceOf(0));
+        Check.fails(promise, "no second trade", NONE, () -> x.priceOf(1));
+    }
+
+    private static void otherShipsComeBack() {
+        BarnacleExchange x = new BarnacleExchange();
+        x.addShip(50, 2);
+        x.addBarnacle(0, 3);
+        x.addShip(9, 4);
+        x.saveSnapshot();
+        x.undo();
+        x.undo();
+        x.undo();
+        x.addShip(60, 5);
+        x.addShip(7, 1);
+        x.addBarnacle(1, 8);
+        Check.is(63, "the ships of the snapshot", 2, x::restoreSnapshot);
+        Check.is(63, "coins", 50, () -> x.coinsOf(0));
+        Check.is(63, "capacity", 2, () -> x.capacityOf(0));
+        Check.is(63, "coins of the second", 9, () -> x.coinsOf(1));
+        Check.is(63, "capacity of the second", 4, () -> x.capacityOf(1));
+        Check.is(63, "ship of the barnacle", 0, () -> x.shipOf(0));
+        Check.is(63, "grade of the barnacle", 3, () -> x.gradeOf(0));
     }
 
     private static void snapshot() {

@@ -21,6 +21,7 @@ public final class ShipsTest {
         lookAtShips();
         orderOnShip();
         lookAtBarnacles();
+        fullExchange();
         Check.end("ShipsTest", 1, 15);
     }
 
@@ -197,6 +198,35 @@ public final class ShipsTest {
         Check.fails(11, "position 1 of 1", NONE, () -> x.barnacleAt(1, 1));
         Check.fails(11, "position -1", NONE, () -> x.barnacleAt(0, -1));
         Check.fails(11, "position far out", NONE, () -> x.barnacleAt(0, Integer.MAX_VALUE));
+    }
+
+    private static void fullExchange() {
+        BarnacleExchange x = new BarnacleExchange();
+        for (int ship = 0; ship < 6; ship++) {
+            x.addShip(10 + ship, 5);
+        }
+        for (int barnacle = 0; barnacle < 16; barnacle++) {
+            x.addBarnacle(barnacle % 6, 1 + barnacle % 9);
+            x.placeOffer(barnacle, 50);
+        }
+        // Ship 3 has barnacles 3, 9 and 15 with the grades 4, 1 and 7.
+        Check.is(9, "load", 3, () -> x.loadOf(3));
+        Check.is(11, "the first", 15, () -> x.barnacleAt(3, 0));
+        Check.is(11, "the second", 3, () -> x.barnacleAt(3, 1));
+        Check.is(11, "the third", 9, () -> x.barnacleAt(3, 2));
+        Check.fails(11, "no fourth", NONE, () -> x.barnacleAt(3, 3));
+        Check.is(13, "ship of the last", 3, () -> x.shipOf(15));
+        Check.is(14, "grade of the last", 7, () -> x.gradeOf(15));
+        Check.is(15, "the last is offered", true, () -> x.isOffered(15));
+        Check.fails(13, "no 17th", OUT, () -> x.shipOf(16));
+        Check.is(2, "all coins", 75, x::allCoins);
+        Check.is(2, "consistent", true, x::isConsistent);
+        for (int ship = 0; ship < 6; ship++) {
+            x.placeBid(ship, 1, 2);
+        }
+        Check.is(2, "consistent with bids", true, x::isConsistent);
+        // Ship 2 has the grades 3, 9 and 6, so its wealth is 30.
+        Check.is(2, "the wealthiest", 2, () -> x.shipByWealth(0));
     }
 
     private static void lookAtBarnacles() {

@@ -15,6 +15,8 @@ public final class TidesTest {
         bidsTakeTurns();
         aFullShipBuysAndSells();
         aBarnacleIsTradedOnce();
+        aBidIsTradedOnce();
+        aBidWithoutMatchIsPassedBy();
         aTradedBarnacleMayBeOfferedAgain();
         ordersExpire();
         aTradeComesAheadOfExpiry();
@@ -156,6 +158,40 @@ public final class TidesTest {
         Check.is(34, "the other bid is open", 1, () -> x.ageOfBid(0));
     }
 
+    private static void aBidIsTradedOnce() {
+        BarnacleExchange x = threeShips();
+        x.addBarnacle(0, 5);
+        x.addBarnacle(0, 6);
+        x.placeOffer(0, 10);
+        x.placeOffer(1, 10);
+        x.placeBid(1, 1, 20);
+        Check.is(35, "one bid for two offers", 1, x::wouldTrade);
+        Check.is(34, "one bid for two offers", 1, x::passTide);
+        Check.is(34, "the better one is sold", 1, () -> x.shipOf(1));
+        Check.is(34, "the other offer is open", 1, () -> x.ageOfOffer(0));
+        Check.is(34, "the buyer paid once", 84, () -> x.coinsOf(1));
+    }
+
+    private static void aBidWithoutMatchIsPassedBy() {
+        BarnacleExchange x = threeShips();
+        x.addBarnacle(0, 5);
+        x.addBarnacle(0, 3);
+        x.placeOffer(0, 10);
+        x.placeOffer(1, 11);
+        x.placeBid(1, 9, 50);
+        x.placeBid(2, 4, 30);
+        x.placeBid(1, 5, 20);
+        x.placeBid(2, 1, 12);
+        // Bid 0 finds none, bid 1 takes offer 0, bid 2 finds none, and bid 3 takes offer 1.
+        Check.is(35, "two of four", 2, x::wouldTrade);
+        Check.is(34, "two of four", 2, x::passTide);
+        Check.is(34, "ship of barnacle 0", 2, () -> x.shipOf(0));
+        Check.is(34, "ship of barnacle 1", 2, () -> x.shipOf(1));
+        Check.is(34, "the first bid is open", 1, () -> x.ageOfBid(0));
+        Check.is(34, "the third bid is open", 1, () -> x.ageOfBid(2));
+        Check.is(34, "no other bid is", 2, x::bidCount);
+    }
+
     private static void aTradedBarnacleMayBeOfferedAgain() {
         BarnacleExchange x = threeShips();
         x.addBarnacle(0, 5);
@@ -228,19 +264,19 @@ public final class TidesTest {
         }
         noTrade(x, 0);
         for (int barnacle = 0; barnacle < 3; barnacle++) {
-            x.addBarnacle(0, 1 + barnacle);
+            x.addBarnacle(4, 1 + barnacle);
         }
-        // Trade i moves barnacle i % 3 from ship i / 3 to the next one, at the price 5 + i.
+        // Trade i moves barnacle i % 3 from ship 4 - i / 3 to the one before, at the price 5 + i.
         for (int i = 0; i < 12; i++) {
             x.placeOffer(i % 3, 5 + i);
-            x.placeBid(i / 3 + 1, 1 + i % 3, 5 + i);
+            x.placeBid(3 - i / 3, 1 + i % 3, 5 + i);
             x.passTide();
         }
         for (int recency = 0; recency < 10; recency++) {
             int back = recency;
             int trade = 11 - recency;
-            Check.is(39, "recency " + back, trade / 3 + 1, () -> x.buyerOf(back));
-            Check.is(40, "recency " + back, trade / 3, () -> x.sellerOf(back));
+            Check.is(39, "recency " + back, 3 - trade / 3, () -> x.buyerOf(back));
+            Check.is(40, "recency " + back, 4 - trade / 3, () -> x.sellerOf(back));
             Check.is(41, "recency " + back, trade % 3, () -> x.barnacleOf(back));
             Check.is(42, "recency " + back, 5 + trade, () -> x.priceOf(back));
         }
