@@ -15,6 +15,11 @@ final class Check {
     private Check() {
     }
 
+    /** The number of answers so far. */
+    static int count() {
+        return right + wrong;
+    }
+
     /** The call must answer this value. */
     static void is(int promise, String what, Object want, Call call) {
         judge(promise, what, want, answerOf(call));
