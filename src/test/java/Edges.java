@@ -48,8 +48,12 @@ abstract class Edges {
         label = "\"" + sentence + "\": ";
         Check.is(number, label + "it stands in the document", true, () -> sentences.show(number, sentence));
         int before = Check.count();
-        calls.run();
-        Check.is(number, label + "a call shows it", true, () -> Check.count() > before);
+        // A call that was to prepare the test may throw, too: then this sentence is not shown, but the next ones can be.
+        Check.is(number, label + "its calls end", true, () -> {
+            calls.run();
+            return true;
+        });
+        Check.is(number, label + "a call shows it", true, () -> Check.count() > before + 1);
     }
 
     static void is(String what, Object want, Check.Call call) {

@@ -305,6 +305,26 @@ final class EdgesOfCommands extends Edges {
             errs("s1/1;".repeat(12), 60);
             errs("f1;".repeat(19) + "t;s", 60);
             errs("f1;".repeat(18) + "t;o12@", 60);
+            errs("f1;".repeat(19) + "s12", 60);
+            errs("f1;".repeat(19) + "o12", 60);
+            errs("f1;".repeat(19) + "b12", 60);
+            errs("t;".repeat(29) + "c1", 60);
+            errs("t;".repeat(29) + "a1", 60);
+            errs("f1;".repeat(19) + "c1+", 60);
+            errs("t;s9/1;".repeat(8) + "t;t;", 60);
+            // What an earlier input had further on must not complete a later one.
+            String[][] starts = {{"s12/3", "s", "s1", "s12", "s12/"}, {"a12", "a", "a1"}, {"c1+2", "c", "c1", "c1+"},
+                {"b12@3", "b", "b1", "b12", "b12@"}, {"o12@3", "o", "o1", "o12", "o12@"}, {"x1", "x"}, {"y1", "y"},
+                {"f1", "f", ""}, {"t;t", "t;", ""}};
+            for (String[] row : starts) {
+                for (int i = 1; i < row.length; i++) {
+                    BarnacleExchange x = new BarnacleExchange();
+                    String input = row[i];
+                    Check.answerOf(() -> Check.run(x, row[0]));
+                    fails("\"" + input + "\" after a longer one", ILLEGAL, () -> Check.run(x, input));
+                    is("\"" + input + "\" after a longer one, the offset", input.length(), x::syntaxErrorOffset);
+                }
+            }
         });
     }
 

@@ -134,6 +134,43 @@ final class EdgesOfHistory extends Edges {
                     return x.restoreSnapshot();
                 })));
             }
+            Picture.Scene few = () -> {
+                BarnacleExchange x = new BarnacleExchange();
+                x.addShip(50, 2);
+                x.addBarnacle(0, 3);
+                x.addShip(9, 4);
+                x.addBarnacle(1, 8);
+                return x;
+            };
+            is("other ships and barnacles in between", Picture.data(few), () -> Picture.data(() -> after(few, x -> {
+                x.saveSnapshot();
+                undoAll(x);
+                x.addShip(60, 5);
+                x.addShip(7, 1);
+                x.addBarnacle(1, 9);
+                x.addBarnacle(0, 1);
+                return x.restoreSnapshot();
+            })));
+            Picture.Scene sixteen = () -> {
+                BarnacleExchange x = new BarnacleExchange();
+                for (int barnacle = 0; barnacle < 16; barnacle++) {
+                    if (barnacle % 4 == 0) {
+                        x.addShip(barnacle, 5);
+                    }
+                    x.addBarnacle(barnacle / 4, 1 + barnacle % 9);
+                }
+                return x;
+            };
+            is("other barnacles among 16 in between", Picture.data(sixteen), () -> Picture.data(() -> after(sixteen,
+                    x -> {
+                x.saveSnapshot();
+                undoAll(x);
+                x.addShip(50, 5);
+                for (int barnacle = x.barnacleCount(); barnacle < 16; barnacle++) {
+                    x.addBarnacle(barnacle < 14 ? 3 : barnacle - 14, 9);
+                }
+                return x.restoreSnapshot();
+            })));
             BarnacleExchange x = Scenes.bids(2).make();
             is("a bid", 2, () -> x.placeBid(0, 1, 1));
             x.undo();
@@ -289,6 +326,7 @@ final class EdgesOfHistory extends Edges {
             for (int ships = 0; ships <= 6; ships++) {
                 is("" + ships, ships, Scenes.ships(ships).make()::saveSnapshot);
             }
+            is("of 16 barnacles", 4, Scenes.barnacles(16).make()::saveSnapshot);
         });
     }
 
@@ -328,6 +366,8 @@ final class EdgesOfHistory extends Edges {
                 Check.answerOf(() -> x.addShip(1, 1));
                 is(ships + " again", ships, x::restoreSnapshot);
             }
+            BarnacleExchange y = after(Scenes.barnacles(16), BarnacleExchange::saveSnapshot);
+            is("of 16 barnacles", 4, y::restoreSnapshot);
         });
         shows(63, "Throws `IllegalStateException` if there is no snapshot", () -> {
             refused("no ships", STATE, Scenes.EMPTY, BarnacleExchange::restoreSnapshot);

@@ -270,7 +270,25 @@ final class EdgesOfOrders extends Edges {
             matches(x, 3, 4, "only the last");
             x.cancelOffer(2);
             matches(x, 0, 3, "the next id of the same grade");
+            BarnacleExchange y = samePrices();
+            for (int offer : new int[] {1, 2, 0, 3}) {
+                matches(y, 0, offer, "of the same price, offer " + offer);
+                y.cancelOffer(offer);
+            }
         });
+    }
+
+    /** Barnacles 0 to 3 have the offers 3, 2, 1 and 0, all of the same price, and the grades 4, 6, 6 and 4. */
+    private static BarnacleExchange samePrices() {
+        BarnacleExchange x = threeShips();
+        for (int grade : new int[] {4, 6, 6, 4}) {
+            x.addBarnacle(0, grade);
+        }
+        for (int barnacle = 3; barnacle >= 0; barnacle--) {
+            x.placeOffer(barnacle, 20);
+        }
+        x.placeBid(1, 1, 20);
+        return x;
     }
 
     /** All that says whether an offer fits must say the same. */
@@ -785,6 +803,11 @@ final class EdgesOfOrders extends Edges {
         is("the last bid", 1, () -> match.on(x, 3));
         is("the bid of ship 0 too", 2, x::passTide);
         is("the first bid got it", 2, () -> x.shipOf(0));
+        BarnacleExchange y = samePrices();
+        for (int offer : new int[] {1, 2, 0, 3}) {
+            is("of the same price, offer " + offer, offer, () -> match.on(y, 0));
+            y.cancelOffer(offer);
+        }
     }
 
     private static void spread() {

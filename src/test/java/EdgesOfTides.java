@@ -48,6 +48,23 @@ final class EdgesOfTides extends Edges {
             is("the last one in its third tide, ahead of its expiry", 1, x::passTide);
             is("it has the barnacle", 1, () -> x.shipOf(2));
             is("it did not expire", 0, x::expiredCount);
+            BarnacleExchange y = fourShips();
+            y.placeBid(1, 1, 50);
+            y.placeBid(2, 1, 50);
+            y.placeOffer(0, 50);
+            is("one trade", 1, y::passTide);
+            y.cancelBid(1);
+            y.placeOffer(1, 50);
+            is("a bid that is traded and one that is cancelled are not taken", 0, y::passTide);
+            BarnacleExchange full = Scenes.bids(10).make();
+            full.cancelOffer(0);
+            full.cancelOffer(1);
+            full.placeOffer(0, 99);
+            is("none of ten bids finds an offer", 0, full::passTide);
+            full.passTide();
+            full.passTide();
+            full.placeOffer(1, 5);
+            is("bids that are expired are not taken", 0, full::passTide);
         });
         shows(0, "If an offer that is still open fits the bid, both are traded.", () -> {
             BarnacleExchange x = fourShips();

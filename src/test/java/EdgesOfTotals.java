@@ -188,6 +188,8 @@ final class EdgesOfTotals extends Edges {
             wealth(x, 1, 0, 2);
             x.giveCoins(2, 12);
             wealth(x, 2, 1, 0);
+            x.giveCoins(0, 99);
+            wealth(x, 0, 2, 1);
         });
         shows(49, "Of ships with the same wealth, the one with the greater load comes first, then the one with the lower"
                 + " index.", () -> {
@@ -310,10 +312,10 @@ final class EdgesOfTotals extends Edges {
                     x.addBarnacle(barnacle, 5);
                 }
                 for (int barnacle = 3; barnacle >= 0; barnacle--) {
-                    x.placeOffer(barnacle, 5);
+                    x.placeOffer(barnacle, 20);
                 }
-                x.placeBid(3, 5, 5);
-                x.placeBid(0, 5, 5);
+                x.placeBid(3, 5, 20);
+                x.placeBid(0, 5, 20);
                 return x.isConsistent();
             });
         });
