@@ -1,8 +1,11 @@
+import java.io.IOException;
 import java.lang.reflect.Constructor;
 import java.lang.reflect.Field;
 import java.lang.reflect.Member;
 import java.lang.reflect.Method;
 import java.lang.reflect.Modifier;
+import java.nio.file.Files;
+import java.nio.file.Path;
 import java.util.Arrays;
 import java.util.TreeSet;
 
@@ -50,7 +53,7 @@ public final class FaceTest {
     private FaceTest() {
     }
 
-    public static void main(String[] args) throws ReflectiveOperationException {
+    public static void main(String[] args) throws IOException, ReflectiveOperationException {
         Class<?> face = BarnacleExchange.class;
         Check.is(0, "the class", "public final", () -> Modifier.toString(face.getModifiers()));
         Check.is(0, "the constants", new TreeSet<>(Arrays.asList(CONSTANTS)), () -> constantsOf(face));
@@ -64,7 +67,31 @@ public final class FaceTest {
             boolean isHidden = !Modifier.isPublic(modifiers) && !Modifier.isProtected(modifiers);
             Check.is(0, inner + " is hidden and static", true, () -> isHidden && Modifier.isStatic(modifiers));
         }
+        showLinesOfTheDocument();
         Check.end("FaceTest", 0, 0);
+    }
+
+    /** The names of the arguments are not seen on the class, so its text is compared with the document's. */
+    private static void showLinesOfTheDocument() throws IOException {
+        String document = Files.readString(Path.of("../shared/DOC.md"));
+        int start = document.indexOf("```java\n");
+        String face = document.substring(start, document.indexOf("```\n", start));
+        String program = Files.readString(Path.of("src/main/java/BarnacleExchange.java")).replaceAll("\\s+", " ");
+        TreeSet<String> missing = new TreeSet<>();
+        int lines = 0;
+        for (String line : face.split("\n")) {
+            if (line.strip().startsWith("public ")) {
+                lines++;
+                // A method ends with ";" in the document, where its body follows in the program.
+                String due = line.contains("(") ? line.strip().replace(";", " {") : line.strip();
+                if (!program.contains(due)) {
+                    missing.add(due);
+                }
+            }
+        }
+        int found = lines;
+        Check.is(0, "the lines of the document's face", 1 + CONSTANTS.length + 1 + METHODS.length, () -> found);
+        Check.is(0, "those that the program has not", new TreeSet<String>(), () -> missing);
     }
 
     private static boolean isHidden(Member member) {
